@@ -75,6 +75,10 @@ public final class ModelTest {
             int c = s.charAt(j);
             due(name("feed", c), post.feed(c), model.feed(c));
         }
+        if (random.nextInt(8) == 0) {
+            int n = random.nextInt(s.length() + 1);
+            due(name("end", n), post.end(n), model.end(n));
+        }
         due("text()", post.text(), model.text());
         due("fault()", post.fault(), model.fault());
     }

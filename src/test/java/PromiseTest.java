@@ -78,6 +78,18 @@ public final class PromiseTest {
         due("end(7)", x.end(7), 11);
         due("text()", x.text(), 1);
         due("rule(3)", x.rule(3), 3);
+        // What was behind the end is not read, not even by a token that would go on there.
+        feed(x, "pace 33;");
+        x.end(6);
+        due("text() of 'pace 3'", x.text(), -16);
+        due("fault()", x.fault(), 2);
+        feed(x, "pace    3;");
+        x.end(5);
+        due("text() of 'pace '", x.text(), -15);
+        feed(x, "paces");
+        x.end(4);
+        due("text() of 'pace'", x.text(), -14);
+        due("fault()", x.fault(), 2);
     }
 
     private static void text(String s, int answer, int fault) {
@@ -125,6 +137,9 @@ public final class PromiseTest {
         // 2: what can not stand there, the end too.
         text("plains 0 0;", -10, 2);
         text("plai 0 0;", -10, 2);
+        text("blain 0 0;", -10, 2);
+        text("race 1;", -10, 2);
+        text("plaid 0 0;", -10, 2);
         text("; ", -10, 2);
         text("5", -10, 2);
         text("plain", -15, 2);
@@ -265,6 +280,7 @@ public final class PromiseTest {
         y.days(1);
         due("tone(0, 3), came", y.tone(0, 3), STATE);
         due("tone(0, 19), came", y.tone(0, 19), BAD);
+        due("tone(0, -1), came", y.tone(0, -1), BAD);
         promise = 12;
         due("pace(0)", x.pace(0), BAD);
         due("pace(5)", x.pace(5), BAD);

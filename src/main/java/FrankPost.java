@@ -14,6 +14,7 @@ public final class FrankPost {
     private final Post now = new Post();
     // What is asked BY DAYS is tried on this one, so that no call makes a copy of its own.
     private final Post trial = new Post();
+    private final Choice choice = new Choice();
     private final Tape tape = new Tape();
     private final Post[] images = new Post[IMAGES];
     private final boolean[] imageKept = new boolean[IMAGES];
@@ -259,18 +260,13 @@ public final class FrankPost {
         if (!now.onItsWay(i)) {
             return STATE;
         }
-        int best = NONE;
-        int most = -1;
+        choice.startAbove(-1);
         for (int v = 0; v <= LAST_TONE; v++) {
             trial.copyFrom(now);
             trial.toneOf[i] = v;
-            int moods = trial.moodsBehind(n);
-            if (moods > most) {
-                best = v;
-                most = moods;
-            }
+            choice.weigh(v, trial.moodsBehind(n));
         }
-        return what == 0 ? best : most;
+        return choice.told(what);
     }
 
     public int need(int i, int n) {
@@ -298,77 +294,57 @@ public final class FrankPost {
         if (now.legOf[i] != TO_SUBJECT) {
             return STATE;
         }
-        int best = NONE;
-        int most = -1;
+        choice.startAbove(-1);
         for (int p = 0; p < now.people; p++) {
             trial.copyFrom(now);
             trial.aboutOf[i] = p;
-            int moods = trial.moodsBehind(n);
-            if (moods > most) {
-                best = p;
-                most = moods;
-            }
+            choice.weigh(p, trial.moodsBehind(n));
         }
-        return what == 0 ? best : most;
+        return choice.told(what);
     }
 
     public int swap(int n, int what) {
         if (!isQuestion(n, what)) {
             return BAD;
         }
-        int best = NONE;
-        int most = moodsAsItIs(n);
+        choice.startAbove(moodsAsItIs(n));
         for (int a = 0; a < now.people; a++) {
             for (int b = a + 1; b < now.people; b++) {
                 trial.copyFrom(now);
                 trial.doorOf[a] = now.doorOf[b];
                 trial.doorOf[b] = now.doorOf[a];
-                int moods = trial.moodsBehind(n);
-                if (moods > most) {
-                    best = 10 * a + b;
-                    most = moods;
-                }
+                choice.weigh(10 * a + b, trial.moodsBehind(n));
             }
         }
-        return best == NONE || what == 0 ? best : most;
+        return choice.told(what);
     }
 
     public int stop(int n, int what) {
         if (!isQuestion(n, what)) {
             return BAD;
         }
-        int best = NONE;
-        int most = moodsAsItIs(n);
+        choice.startAbove(moodsAsItIs(n));
         for (int i = 0; i < now.letters; i++) {
             if (now.onItsWay(i)) {
                 trial.copyFrom(now);
                 trial.legOf[i] = KEPT;
-                int moods = trial.moodsBehind(n);
-                if (moods > most) {
-                    best = i;
-                    most = moods;
-                }
+                choice.weigh(i, trial.moodsBehind(n));
             }
         }
-        return best == NONE || what == 0 ? best : most;
+        return choice.told(what);
     }
 
     public int kind(int p, int n, int what) {
         if (!now.hasOne(p) || !isQuestion(n, what)) {
             return BAD;
         }
-        int best = NONE;
-        int most = -1;
+        choice.startAbove(-1);
         for (int v = 0; v < KINDS; v++) {
             trial.copyFrom(now);
             trial.kindOf[p] = v;
-            int moods = trial.moodsBehind(n);
-            if (moods > most) {
-                best = v;
-                most = moods;
-            }
+            choice.weigh(v, trial.moodsBehind(n));
         }
-        return what == 0 ? best : most;
+        return choice.told(what);
     }
 
     // ---- days without a post
@@ -734,6 +710,28 @@ public final class FrankPost {
             }
         }
         return most;
+    }
+
+    /** The first of those by which moods are most, if they are more than those that it starts above. */
+    private static final class Choice {
+        private int best = NONE;
+        private int most;
+
+        void startAbove(int moods) {
+            best = NONE;
+            most = moods;
+        }
+
+        void weigh(int which, int moods) {
+            if (moods > most) {
+                best = which;
+                most = moods;
+            }
+        }
+
+        int told(int what) {
+            return best == NONE || what == 0 ? best : most;
+        }
     }
 
     /** All that an image holds: people, letters, pace, day, what was seen. */

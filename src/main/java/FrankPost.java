@@ -531,10 +531,10 @@ public final class FrankPost {
         Sheet row = sheets[k];
         int before = now.letters;
         int came = 0;
-        int found = row.faultOfLane(lane);
+        int found = 0;
         for (int i = 0; i < n && found == 0; i++) {
             int cell = f + CELLS_A_LETTER * i;
-            found = row.faultOfCells(cell, CELLS_A_LETTER);
+            found = row.faultOfLetter(lane, cell);
             if (found == 0) {
                 int answer = write(row.cells[cell], row.cells[cell + 1], row.cells[cell + 2], row.cells[cell + 3]);
                 if (answer < 0) {
@@ -1185,9 +1185,12 @@ public final class FrankPost {
             cells[i] = laneOfCells == 0 ? (byte) v : laneOfCells == 1 ? (short) v : v;
         }
 
-        /** Nothing may be taken as of any lane, as the machine casts null to all. */
-        int faultOfLane(int lane) {
-            return isNothing() || laneOfCells == lane ? 0 : CAST_FAULT;
+        /** Nothing may be taken as of any lane, as the machine casts null to all: it is found when a cell is read. */
+        int faultOfLetter(int lane, int first) {
+            if (!isNothing() && laneOfCells != lane) {
+                return CAST_FAULT;
+            }
+            return faultOfCells(first, CELLS_A_LETTER);
         }
 
         int faultOfCells(int first, int n) {

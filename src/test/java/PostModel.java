@@ -495,10 +495,11 @@ final class PostModel {
         int came = 0;
         int torn = 0;
         try {
-            byte[] b = lane == 0 ? (byte[]) sheets[k] : null;
-            short[] s = lane == 1 ? (short[]) sheets[k] : null;
-            int[] t = lane == 2 ? (int[]) sheets[k] : null;
             for (int i = 0; i < n; i++) {
+                // Taken anew for each letter: where none is read, nothing is refused.
+                byte[] b = lane == 0 ? (byte[]) sheets[k] : null;
+                short[] s = lane == 1 ? (short[]) sheets[k] : null;
+                int[] t = lane == 2 ? (int[]) sheets[k] : null;
                 int[] c = new int[4];
                 for (int j = 0; j < 4; j++) {
                     int at = f + 4 * i + j;

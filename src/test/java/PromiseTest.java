@@ -781,11 +781,17 @@ public final class PromiseTest {
             due("read(2, " + lane + ", -5, 1)", x.read(2, lane, -5, 1), 0);
             due("torn()", x.torn(), 1);
         }
-        // As the machine has it: a row of another lane is refused when it is taken, nothing when its cell is read.
-        due("read(1, 0, 0, 0)", x.read(1, 0, 0, 0), 0);
-        due("torn()", x.torn(), 3);
-        due("read(2, 0, 0, 0)", x.read(2, 0, 0, 0), 0);
-        due("torn()", x.torn(), 0);
+        // Of no letters nothing is refused, whatever the sheet, and an earlier fault is told no more.
+        for (int k = 1; k <= 2; k++) {
+            for (int lane = 0; lane < 3; lane++) {
+                for (int f : new int[] {0, -1, 40, LEAST, MOST}) {
+                    x.read(1, 0, 0, 1);
+                    due("torn(), to begin with", x.torn(), 3);
+                    due("read(" + k + ", " + lane + ", " + f + ", 0)", x.read(k, lane, f, 0), 0);
+                    due("torn()", x.torn(), 0);
+                }
+            }
+        }
         x.burn(0);
         x.sheet(1, 0, 40);
         due("read(1, 0, 0, 10)", x.read(1, 0, 0, 10), -26);

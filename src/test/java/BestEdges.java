@@ -1,8 +1,5 @@
 /** The edges of what is best, and of days without a post: promises 19 to 26. */
 final class BestEdges extends Edges {
-    /** Behind two days, one letter that came, one that is kept. */
-    private static final String ENDED = "plain 0 10;letter 0 0 0 9;letter 0 0 0 0;";
-
     @Override
     void run() {
         say();
@@ -14,8 +11,6 @@ final class BestEdges extends Edges {
         luck();
         mean();
     }
-
-    private FrankPost ended() { return told(ENDED, 2); }
 
     private void say() {
         says(19, "The TONE (as told) of a LETTER that is on its way by which MOODS are most behind n DAYS (0 to 60), of several the least (what 0), how much (1).");
@@ -88,6 +83,7 @@ final class BestEdges extends Edges {
         due("one(0, 1), as it was", x.one(0, 1), 0);
         dueAll("swap(1), the last two", told("plain 9 1;plain 9 1;plain 9 1;plain 0 1;plain 5 1;letter 3 3 4 12;pace 1;"), (y, a) -> y.swap(1, a[0]), 34, 8);
         dueAll("swap(1), the first two", told("plain 0 0;plain 9 0;letter 0 0 1 10;pace 1;"), (y, a) -> y.swap(1, a[0]), 1, 1);
+        dueAll("swap(1), the lesser is the one who is moved there", told("plain 9 0;plain 0 0;letter 1 1 0 10;pace 1;"), (y, a) -> y.swap(1, a[0]), 1, 1);
         says(22, "BAD; NONE: by none.");
         dueAll("swap(0), nothing is read", x, (y, a) -> y.swap(0, a[0]), NONE, NONE);
         dueAll("swap(60), as much as it is", x, (y, a) -> y.swap(60, a[0]), NONE, NONE);
@@ -138,11 +134,6 @@ final class BestEdges extends Edges {
         boundsOfOne("kind", call, new int[] {0, 0, 0}, 0);
         bounds("kind", this::rich, call, new int[] {0, 0, 0}, 1, 0, 60);
         bounds("kind", this::rich, call, new int[] {0, 0, 0}, 2, 0, 1);
-    }
-
-    private void luckIs(FrankPost x, int v, int i, int n, long over, long under) {
-        due("luck(" + v + ", " + i + ", " + n + ", 0)", x.luck(v, i, n, 0), over);
-        due("luck(" + v + ", " + i + ", " + n + ", 1)", x.luck(v, i, n, 1), under);
     }
 
     private void luck() {

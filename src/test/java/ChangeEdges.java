@@ -1,8 +1,5 @@
 /** The edges of what is changed, and of days: promises 10 to 18. */
 final class ChangeEdges extends Edges {
-    /** One letter that came, one that is kept. */
-    private static final String ENDED = "plain 0 10;letter 0 0 0 9;letter 0 0 0 0;";
-
     @Override
     void run() {
         alter();
@@ -49,8 +46,8 @@ final class ChangeEdges extends Edges {
         Call tone = (y, a) -> y.tone(a[0], a[1]);
         boundsOfLetter("tone", tone, new int[] {0, 9}, 0);
         bounds("tone", this::rich, tone, new int[] {0, 9}, 1, 0, 18);
-        refused("tone, came", () -> told(ENDED, 2), tone, STATE, 0, 9);
-        refused("tone, kept", () -> told(ENDED, 2), tone, STATE, 1, 0);
+        refused("tone, came", this::ended, tone, STATE, 0, 9);
+        refused("tone, kept", this::ended, tone, STATE, 1, 0);
     }
 
     private void pace() {
@@ -96,7 +93,7 @@ final class ChangeEdges extends Edges {
         due("burn(0)", x.burn(0), 5);
         due("burn(0) of none", x.burn(0), 0);
         due("rule(1)", x.rule(1), 0);
-        FrankPost ended = told(ENDED, 2);
+        FrankPost ended = ended();
         ended.burn(0);
         due("rule(5), burnt", ended.rule(5), 0);
         due("rule(6), burnt", ended.rule(6), 0);
@@ -148,8 +145,8 @@ final class ChangeEdges extends Edges {
         FrankPost x = told("plain 0 10;plain 9 10;letter 0 0 1 12;letter 1 1 1 5;pace 3;");
         int[][] runs = {{0, 20, 0, 0, 0}, {1, 16, 0, 2, 0}, {2, 16, 0, 2, 1}, {3, 19, 0, 2, 1}, {5, 19, 0, 2, 3}, {6, 20, 1, 2, 3}, {60, 20, 1, 2, 57}};
         for (int[] r : runs) dueAll("runs(" + r[0] + ")", x, (y, a) -> y.runs(r[0], a[0]), r[1], r[2], r[3], r[4]);
-        dueAll("runs(0), all came", told(ENDED, 2), (y, a) -> y.runs(0, a[0]), 1, 1, 2, 0);
-        dueAll("runs(60), all came", told(ENDED, 2), (y, a) -> y.runs(60, a[0]), 1, 1, 2, 60);
+        dueAll("runs(0), all came", ended(), (y, a) -> y.runs(0, a[0]), 1, 1, 2, 0);
+        dueAll("runs(60), all came", ended(), (y, a) -> y.runs(60, a[0]), 1, 1, 2, 60);
         dueAll("runs(60) of nobody", new FrankPost(), (y, a) -> y.runs(60, a[0]), 0, 0, 0, 60);
         says(16, "BAD.");
         Call call = (y, a) -> y.runs(a[0], a[1]);

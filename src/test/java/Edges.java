@@ -15,6 +15,9 @@ abstract class Edges {
     static final String MANY = "plain 0 10;proud 2 10;kind 4 10;sly 6 10;plain 8 10;letter 0 1 2 9;letter 1 2 3 9;"
         + "letter 2 3 4 9;letter 3 4 0 9;letter 4 0 1 9;letter 0 0 0 9;";
 
+    /** Behind two days, one letter that came, one that is kept. */
+    static final String ENDED = "plain 0 10;letter 0 0 0 9;letter 0 0 0 0;";
+
     /** A sentence of the document, and the promise it stands in (0: none, it is among the terms). */
     record Quote(int promise, String words) { }
 
@@ -66,6 +69,11 @@ abstract class Edges {
         for (int what = 0; what < want.length; what++) due(name + ", what " + what, call.on(x, what), want[what]);
     }
 
+    final void luckIs(FrankPost x, int v, int i, int n, long over, long under) {
+        due("luck(" + v + ", " + i + ", " + n + ", 0)", x.luck(v, i, n, 0), over);
+        due("luck(" + v + ", " + i + ", " + n + ", 1)", x.luck(v, i, n, 1), under);
+    }
+
     static void feed(FrankPost x, String s) {
         for (int j = 0; j < s.length(); j++) x.feed(s.charAt(j));
     }
@@ -102,6 +110,7 @@ abstract class Edges {
 
     final FrankPost few() { return told(FEW); }
     final FrankPost many() { return told(MANY); }
+    final FrankPost ended() { return told(ENDED, 2); }
 
     /** People, letters, pace, day, what was seen: all that an image holds, as far as it can be asked without a change. */
     static String state(FrankPost x) {

@@ -2,7 +2,11 @@ import java.util.Random;
 
 /** Long runs of calls, by seeds that stay the same, on FrankPost and on the model at once. */
 public final class ModelTest {
-    private static final int RUNS = 3000;
+    private static final int RUNS = 6000;
+    // What an object answers behind so many calls is free, so it is not held against the model.
+    private static final int MOST_CALLS = 512;
+    // As many calls as lookAtAll() makes.
+    private static final int LOOK = 117;
     private static final int[] EDGES = {Integer.MIN_VALUE, -10, -4, -3, -2, -1, 0, 1, 2, 3, 4, 5, 6, 7, 8, 9, 10, 11,
         18, 19, 20, 21, 30, 31, 40, 41, 59, 60, 61, 127, 128, 160, 161, 255, 256, 65536, Integer.MAX_VALUE - 3, Integer.MAX_VALUE};
     private static int wrong = 0;
@@ -12,6 +16,7 @@ public final class ModelTest {
     private final PostModel model = new PostModel();
     private final StringBuilder log = new StringBuilder();
     private boolean failed = false;
+    private int calls = 0;
 
     private ModelTest(long seed) { random = new Random(seed); }
 
@@ -26,6 +31,8 @@ public final class ModelTest {
     private int bool() { return pick(0, 1); }
 
     private void due(String call, long got, long want) {
+        calls++;
+        if (calls > MOST_CALLS) return;
         log.append("  ").append(call).append(" = ").append(want).append('\n');
         if (got != want && !failed) {
             failed = true;
@@ -164,13 +171,13 @@ public final class ModelTest {
 
     private void go() {
         if (random.nextInt(20) != 0) tellText();
-        for (int n = 0; n < 60 && !failed; n++) {
+        for (int n = 0; n < 120 && !failed && calls <= MOST_CALLS - LOOK; n++) {
             switch (random.nextInt(20)) {
                 case 0: if (random.nextInt(4) == 0) tellText(); break;
                 case 1, 2, 3, 4, 5: change(); break;
                 case 6, 7, 8: sheets(); break;
                 case 9, 10, 11, 12: moods(); break;
-                case 13: lookAtAll(); break;
+                case 13: if (random.nextInt(3) == 0) lookAtAll(); break;
                 default: ask();
             }
         }

@@ -1,7 +1,5 @@
 /** The edges of what is told from moods, and of days by a seed: promises 27 to 32. */
 final class MoodEdges extends Edges {
-    /** Behind two days, one letter that came, one that is kept. */
-    private static final String ENDED = "plain 0 10;letter 0 0 0 9;letter 0 0 0 0;";
     private static final int ALL_TONES = 524287;
 
     @Override
@@ -13,8 +11,6 @@ final class MoodEdges extends Edges {
         ask();
         drift();
     }
-
-    private FrankPost ended() { return told(ENDED, 2); }
 
     /** FEW, with as many sights as there may be. */
     private FrankPost seenSix() {
@@ -130,6 +126,9 @@ final class MoodEdges extends Edges {
         asks("the first one", told("plain 0 10;plain 0 10;letter 0 1 0 9;"), 10, 1);
         asks("of leg 1", told("plain 9 10;plain 0 10;letter 1 1 1 9;", 1), 11, 3);
         asks("far on", told("plain 9 10;plain 0 0;letter 1 1 0 9;pace 1;"), 90, 1);
+        // 5 to 9 above nothing all make 20 of 15, and 5 to 9 below make 0 of 5; what another one feels is not of it.
+        asks("of a glad one", told("plain 9 20;plain 0 15;letter 1 1 1 9;"), 11, 5);
+        asks("of a sad one", told("plain 9 0;plain 0 5;letter 1 1 1 9;"), 11, 5);
         FrankPost x = told("plain 0 19;plain 0 10;letter 0 1 0 9;");
         x.see(1, 0, 20);
         due("tones(0)", x.tones(0), ALL_TONES & -1 << 10);
@@ -146,6 +145,10 @@ final class MoodEdges extends Edges {
         proud.see(1, 0, 0);
         due("tones(0)", proud.tones(0), (1 << 10) - 1);
         asks("nobody can tell", proud, NONE, NONE);
+        FrankPost glad = told("plain 0 15;letter 0 0 0 9;");
+        glad.see(1, 0, 20);
+        due("tones(0)", glad.tones(0), ALL_TONES & -1 << 14);
+        asks("nobody can tell of the last five", glad, NONE, NONE);
         Call ask = (y, a) -> y.ask(a[0], a[1]);
         boundsOfLetter("ask", ask, new int[] {0, 0}, 0);
         bounds("ask", this::rich, ask, new int[] {0, 0}, 1, 0, 1);

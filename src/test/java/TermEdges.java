@@ -40,7 +40,7 @@ final class TermEdges extends Edges {
 
     private void firstThatFits() {
         says(TERMS, "the first that fits");
-        FrankPost ended = told("plain 0 10;letter 0 0 0 9;letter 0 0 0 0;", 2);
+        FrankPost ended = ended();
         // BAD ahead of STATE.
         for (int i = 0; i <= 1; i++) {
             due("tone(i, 19), ended", ended.tone(i, 19), BAD);
@@ -94,20 +94,15 @@ final class TermEdges extends Edges {
         return x;
     }
 
-    private void fraction(FrankPost x, int v, int n, long over, long under) {
-        due("luck(" + v + ", 0, " + n + ", 0)", x.luck(v, 0, n, 0), over);
-        due("luck(" + v + ", 0, " + n + ", 1)", x.luck(v, 0, n, 1), under);
-    }
-
     private void fractions() {
         says(TERMS, "Fractions are in lowest terms, the denominator above 0 (0 is 0 by 1).");
         FrankPost x = told("plain 0 0;letter 0 0 0 9;");
-        fraction(x, 5, 0, 0, 1);
-        fraction(x, 10, 8, 0, 1);
-        fraction(x, 0, 8, 1, 1);
-        fraction(x, 5, 2, 1, 4);
-        fraction(x, 2, 3, 112, 125);
-        fraction(x, 1, 8, 99999927, 100000000);
+        luckIs(x, 5, 0, 0, 0, 1);
+        luckIs(x, 10, 0, 8, 0, 1);
+        luckIs(x, 0, 0, 8, 1, 1);
+        luckIs(x, 5, 0, 2, 1, 4);
+        luckIs(x, 2, 0, 3, 112, 125);
+        luckIs(x, 1, 0, 8, 99999927, 100000000);
         due("mean(5, 8, 0) of 0", x.mean(5, 8, 0), 0);
         due("mean(5, 8, 1) of 0", x.mean(5, 8, 1), 1);
     }
@@ -228,7 +223,7 @@ final class TermEdges extends Edges {
                 }
             }
         }
-        FrankPost ended = told("plain 0 10;letter 0 0 0 9;letter 0 0 0 0;", 2);
+        FrankPost ended = ended();
         ended.alter(0, 1, 9);
         ended.days(1);
         due("at, come", ended.letter(0, 4), 0);
